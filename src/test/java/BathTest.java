@@ -285,6 +285,9 @@ public final class BathTest {
         x = Texts.told("c0000;c0000;c0000;s11;s27;");
         due("one beside and one afar", x.minute(0, 3), 2);
         due("who swims shows it", x.minute(1, 3), 2);
+        x = Texts.told("c0000;c0000;c0000;s01;");
+        due("the first one shows it", x.minute(1, 3), 2);
+        due("the first one from afar", x.minute(2, 3), 1);
     }
 
     private static void cold() {
@@ -314,6 +317,8 @@ public final class BathTest {
             x.minute(0, 3);
         }
         due("trust 0 at least", x.child(1, 2), 0);
+        x.minute(1, 0);
+        due("the first one is colder too", x.child(0, 4), 1);
     }
 
     private static void minuteRefusals() {

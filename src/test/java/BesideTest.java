@@ -60,6 +60,8 @@ public final class BesideTest {
         due("the one that is left", x.helps(), 0);
         x.feels(0, 0, 0);
         due("none", x.helps(), -4);
+        x = Texts.told("c2020;c2020;c2020;c0020;");
+        due("1 by one beside is more than 0 by two", x.helps(), 3);
         x = Texts.told("c2020;");
         due("ready, though nobody gains", x.helps(), 0);
     }
@@ -90,6 +92,8 @@ public final class BesideTest {
         x.feels(0, 0, 9);
         due("the week without air is looked at", x.bands(0, 0, 5), 0);
         due("behind a week it is enough", x.bands(0, 1, 1), -4);
+        x.feels(0, 0, 7);
+        due("air 4 and 2 hold, 0 not", x.bands(0, 4, 2), 2);
         x.feels(0, 0, 1);
         due("9 holds", x.bands(0, 9, 1), -4);
         due("2 less each week", x.bands(0, 9, 2), 1);
@@ -124,6 +128,10 @@ public final class BesideTest {
         // A pusher is never frightened: TRUST 5 is enough for STEPS 0 .. 3.
         part(x, 2, 4, 4, 2, 1, 16);
         part(x, 2, 8, 5, 2, 0, 1);
+        // A diver with TRUST 1: a swallow leaves 0, and 1 is needed.
+        HandUnderTheChin diver = Texts.told("c7001;");
+        part(diver, 0, 1, 1, 2, 1, 2);
+        part(diver, 0, 8, 1, 2, 1, 2);
         x.feels(0, 1, 7);
         part(x, 0, 8, 0, 2, 1, 1);
         part(x, 0, 8, 1, 2, 0, 1);
@@ -228,8 +236,10 @@ public final class BesideTest {
         due("1 week", x.forget(), 1);
         x.feels(0, 0, 3);
         due("not ready now", x.forget(), 0);
-        x.feels(0, 0, 20);
-        due("20 - 9 is still enough", x.forget(), -4);
+        x.feels(0, 0, 12);
+        due("9 weeks", x.forget(), 9);
+        x.feels(0, 0, 13);
+        due("13 - 9 is still enough", x.forget(), -4);
         // STEP 6 needs 10: behind 2 weeks 8, behind 3 weeks STEP 5 needs 9 and 7 is there.
         x.feels(0, 1, 6);
         x.feels(0, 0, 10);
@@ -286,6 +296,9 @@ public final class BesideTest {
         x.feels(1, 1, 0);
         due("0 by 4 above", x.mean(0), 0);
         due("0 by 4 below", x.mean(1), 1);
+        x = Texts.told("c0000;s05;");
+        due("5 by 1 above", x.mean(0), 5);
+        due("5 by 1 below", x.mean(1), 1);
         due("mean(2)", x.mean(2), REFUSED);
         due("mean(-1)", x.mean(-1), REFUSED);
     }

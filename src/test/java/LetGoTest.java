@@ -127,6 +127,8 @@ public final class LetGoTest {
         due("one by itself: held (5), let, let, held, ..", x.allSwim(), 11);
         x.feels(0, 1, 7);
         due("all swim now", x.allSwim(), 0);
+        due("behind 99", Texts.told("c6202;c4303;c2902;c2707;c1704;c2414;").allSwim(), 99);
+        due("not behind 98", Texts.told("c6202;c4303;c2902;c2707;c1704;c2414;").byTurns(98, 0), 5);
         // Six shy ones lose more by the cold than the one turn in six gives.
         x = Texts.told(Texts.repeat("c2900;", 6));
         due("never till 99", x.allSwim(), -4);

@@ -102,34 +102,40 @@ public final class ToldTest {
         due("weeks(21, ..)", x.weeks(21, 5, 0), -1);
         due("what 2", x.weeks(1, 5, 2), -1);
         due("what -1", x.weeks(1, 5, -1), -1);
-        // Seed 0 draws for the WAYS of one CHILD: every second of the known row of this generator.
-        int[] ways = drawnWays(0, 10);
-        HandUnderTheChin y = Texts.told("c0010;");
-        int swallows = 0;
-        for (int way : ways) {
-            int step = y.child(0, 3);
-            if (y.minute(0, way) >= 0 && way == 2 && y.child(0, 3) == step) {
-                swallows++;
+        String bath = "c0006;c1304;c6903;c5001;s16;m00;m21;";
+        for (int seed : new int[] {0, 1, -1, 77, 1103515245, Integer.MIN_VALUE, Integer.MAX_VALUE}) {
+            for (int n : new int[] {1, 2, 20}) {
+                HandUnderTheChin told = Texts.told(bath);
+                int[] want = played(Texts.told(bath), n, seed);
+                due("steps, seed " + seed, told.weeks(n, seed, 0), want[0]);
+                due("swallows, seed " + seed, told.weeks(n, seed, 1), want[1]);
             }
         }
-        due("steps of a week", x.weeks(1, 0, 0), y.child(0, 3));
-        due("swallows of a week", x.weeks(1, 0, 1), swallows);
         Texts.tell(x, "s07;");
         due("who swims: nothing", x.weeks(20, -7, 0), 0);
         due("who swims: nothing", x.weeks(20, -7, 1), 0);
         CHECK.same("nothing changed", Texts.state(x), "1 0 10 7 0 1 |0 0 10 7 0 ");
     }
 
-    private static int[] drawnWays(int seed, int n) {
-        int[] ways = new int[n];
-        long z = seed;
-        for (int i = 0; i < 2 * n; i++) {
-            z = z * 1103515245L + 12345L & 0xffffffffL;
-            if (i % 2 == 1) {
-                ways[i / 2] = (int) ((z & 0x7fffffffL) >> 16) % 4;
+    /** STEPS and SWALLOWS of n weeks, played by the calls themselves, drawn without ints. */
+    private static int[] played(HandUnderTheChin x, int n, int seed) {
+        int[] sums = new int[2];
+        long z = seed & 0xffffffffL;
+        x.image();
+        for (int i = 0; i < 10 * n; i++) {
+            if (i % 10 == 0) {
+                x.restore();
             }
+            z = z * 1103515245L + 12345L & 0xffffffffL;
+            int c = (int) ((z & 0x7fffffffL) >> 16) % x.count(0);
+            z = z * 1103515245L + 12345L & 0xffffffffL;
+            int way = (int) ((z & 0x7fffffffL) >> 16) % 4;
+            int before = x.count(3);
+            boolean taken = x.minute(c, way) >= 0;
+            sums[0] += x.count(3) - before;
+            sums[1] += taken && way == 2 && x.count(3) == before ? 1 : 0;
         }
-        return ways;
+        return sums;
     }
 
     private static void image() {
