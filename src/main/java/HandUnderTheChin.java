@@ -4,8 +4,8 @@ import java.util.Arrays;
  * Children at the rail of a bath and one teacher who holds, fingers, lets go
  * or has another one show it. The words in capitals are those of DOC.md.
  *
- * No question makes an object: all of them are answered on trial rails that
- * the constructor makes, because a run of calls has one small room for all.
+ * Questions are answered on trial rails that the constructor makes, because a
+ * run of calls has one small room for all; only was makes a few KINDS to ask.
  */
 public final class HandUnderTheChin {
     private static final int MOST_CHILDREN = 6;
