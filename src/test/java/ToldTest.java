@@ -118,7 +118,7 @@ public final class ToldTest {
     }
 
     /** STEPS and SWALLOWS of n weeks, played by the calls themselves, drawn without ints. */
-    private static int[] played(HandUnderTheChin x, int n, int seed) {
+    static int[] played(HandUnderTheChin x, int n, int seed) {
         int[] sums = new int[2];
         long z = seed & 0xffffffffL;
         x.image();
