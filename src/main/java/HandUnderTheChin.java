@@ -616,29 +616,33 @@ public final class HandUnderTheChin {
     /** By breadth, so that the first way to swim that is met is a shortest one. */
     private int fewestAlone(Pupil one, int firstWay) {
         Arrays.fill(minutesTo, UNSEEN);
-        int start = stateOf(one);
-        minutesTo[start] = 0;
-        queue[0] = start;
-        int end = 1;
+        int end = reach(stateOf(one), 0, 0);
         for (int i = 0; i < end && i < queue.length; i++) {
             int at = queue[i];
+            int minutes = minutesTo[at];
             if (at / TRUSTS == SWIMS) {
-                return minutesTo[at] <= MOST_ALONE ? minutesTo[at] : NONE;
+                return minutes <= MOST_ALONE ? minutes : NONE;
             }
             for (int way = firstWay; way <= LET; way++) {
                 walker.kind = one.kind;
                 walker.trust = at % TRUSTS;
                 walker.step = at / TRUSTS;
                 walker.meets(way);
-                int to = stateOf(walker);
-                if (minutesTo[to] == UNSEEN && end < queue.length) {
-                    minutesTo[to] = minutesTo[at] + 1;
-                    queue[end] = to;
-                    end++;
-                }
+                end = reach(stateOf(walker), minutes + 1, end);
             }
         }
         return NONE;
+    }
+
+    /** Puts a state that is still unseen, and is one, at the end of the queue: the end behind it. */
+    private int reach(int state, int minutes, int end) {
+        if (!within(state, 0, minutesTo.length - 1) || !within(end, 0, queue.length - 1)
+                || minutesTo[state] != UNSEEN) {
+            return end;
+        }
+        minutesTo[state] = minutes;
+        queue[end] = state;
+        return end + 1;
     }
 
     private static int stateOf(Pupil one) {
